@@ -448,10 +448,14 @@ public final class LockedChain {
         /** Sends a letter that has come to the seats of the bits; when there are 400, it is lost. */
         void send(int sender, int kind, int height, int round, int value, int vr, int came) {
             int slot = slot(kind, height, round);
-            Letter l = nextBlank();
-            if (l == null || slot < 0 || slot >= firsts.length || slot >= lasts.length) {
+            if (slot < 0 || slot >= firsts.length || slot >= lasts.length || sent < 0 || sent >= letters.length) {
                 return;
             }
+            // Letters of earlier seatings are written anew, so that one object never makes more than 400.
+            if (letters[sent] == null) {
+                letters[sent] = new Letter();
+            }
+            Letter l = letters[sent];
             l.sender = sender;
             l.kind = kind;
             l.height = height;
@@ -494,17 +498,6 @@ public final class LockedChain {
                 }
             }
             return false;
-        }
-
-        /** Letters of earlier seatings are written anew, so that one object never makes more than 400. */
-        private Letter nextBlank() {
-            if (sent < 0 || sent >= letters.length) {
-                return null;
-            }
-            if (letters[sent] == null) {
-                letters[sent] = new Letter();
-            }
-            return letters[sent];
         }
     }
 

@@ -35,7 +35,8 @@ public final class ModelTest {
         pick(2);
         chain = new LockedChain();
         plain = new PlainChain();
-        int manner = pick(4);
+        int manner = pick(6);
+        int laggard = pick(4);
         where = "run " + run + ", laying: ";
         int calls = lay(manner);
         for (; calls < CALLS && !Due.anyWrong(); calls++) {
@@ -47,6 +48,8 @@ public final class ModelTest {
                 calls++;
             } else if (manner == 2 && pick(9) > 0) {
                 say();
+            } else if (manner >= 3 && pick(12) > 0) {
+                comeButHoldBack(manner == 3 ? -1 : laggard);
             } else {
                 act(manner);
             }
@@ -98,7 +101,7 @@ public final class ModelTest {
         } else if (what < 94) {
             hold();
         } else if (what < 97) {
-            int k = odd(1 + pick(manner + 1));
+            int k = odd(1 + pick(manner % 4 + 1));
             Due.is(where + "fair(" + k + ")", chain.fair(k), plain.fair(k));
         } else if (what < 98) {
             Due.is(where + "begin()", chain.begin(), plain.begin());
@@ -123,6 +126,32 @@ public final class ModelTest {
         for (int i = 0; i < 6 && plain.votes(seat, 1, 0, 0, -2) >= 0 && hasCome(letter, seat); i++) {
             letter = someLetter();
         }
+        bring(letter, seat);
+    }
+
+    /** All comes in order, but to the laggard nothing before all else came; then in any order. */
+    private void comeButHoldBack(int laggard) {
+        int sent = plain.count(2);
+        for (int letter = 0; letter < sent; letter++) {
+            for (int seat = 0; seat < plain.count(0); seat++) {
+                if (seat != laggard && plain.isAwaited(letter, seat)) {
+                    bring(letter, seat);
+                    return;
+                }
+            }
+        }
+        int first = pick(Math.max(1, sent));
+        for (int i = 0; i < sent && laggard >= 0; i++) {
+            int letter = (first + i) % sent;
+            if (plain.isAwaited(letter, laggard)) {
+                bring(letter, laggard);
+                return;
+            }
+        }
+        end();
+    }
+
+    private void bring(int letter, int seat) {
         Due.is(where + "come(" + letter + ", " + seat + ")", chain.come(letter, seat), plain.come(letter, seat));
     }
 
@@ -179,8 +208,7 @@ public final class ModelTest {
         int value = to % 2 + pick(6) / 5;
         Due.is(where + "say(" + from + ", " + kind + ", " + h + ", " + r + ", " + value + ", " + vr + ")",
             chain.say(from, kind, h, r, value, vr), plain.say(from, kind, h, r, value, vr));
-        int last = plain.count(2) - 1;
-        Due.is(where + "come(" + last + ", " + to + ")", chain.come(last, to), plain.come(last, to));
+        bring(plain.count(2) - 1, to);
     }
 
     private void look() {

@@ -295,6 +295,11 @@ final class PlainChain {
         rules(seat);
     }
 
+    /** Whether a letter has still to come to a seat: for choosing calls, not a call itself. */
+    boolean isAwaited(int letter, int seat) {
+        return !seats.get(seat).isFalse && !seats.get(seat).inbox.contains(letter);
+    }
+
     // ---- the face
 
     int seats(int n) {
