@@ -8,8 +8,9 @@ public final class LockedChain {
     private static final int HEIGHTS = 6, ROUNDS = 10, VALUES = 100, KINDS = 3, TIMERS = 3;
     private static final int MOST_LETTERS = 400, MOST_TURNS = 30;
     private static final int EMPTY = 0, NIL = -1, WHATEVER = -2, NO_VR = -1;
-    /** Kinds of letters; the steps of a seat bear the same numbers. */
+    /** Kinds of letters; the two latter are the numbers of the steps behind PROPOSE, too. */
     private static final int PROPOSAL = 0, PREVOTE = 1, PRECOMMIT = 2;
+    private static final int PROPOSE = 0;
     private static final int PROPOSE_TIMER = 0, PREVOTE_TIMER = 1, PRECOMMIT_TIMER = 2;
     private static final int NOT_SET = -1;
     private static final long LINK_AHEAD = 7L, LINK_FACTOR = 1000003L, LINK_MODULUS = 2147483648L;
@@ -617,7 +618,7 @@ public final class LockedChain {
 
         void enter(int newRound) {
             round = newRound;
-            step = PROPOSAL;
+            step = PROPOSE;
             didLock = false;
             didTimePrevotes = false;
             didTimePrecommits = false;
@@ -712,7 +713,7 @@ public final class LockedChain {
             if (!s.unset(timer)) {
                 return;
             }
-            if (timer == PROPOSE_TIMER && s.step == PROPOSAL) {
+            if (timer == PROPOSE_TIMER && s.step == PROPOSE) {
                 vote(s, PREVOTE, NIL);
             } else if (timer == PREVOTE_TIMER && s.step == PREVOTE) {
                 vote(s, PRECOMMIT, NIL);
@@ -793,7 +794,7 @@ public final class LockedChain {
         }
 
         private boolean prevotesNew(Seat s) {
-            if (s.step != PROPOSAL) {
+            if (s.step != PROPOSE) {
                 return false;
             }
             for (Letter l = post.first(PROPOSAL, s.height, s.round); l != null; l = l.next) {
@@ -807,7 +808,7 @@ public final class LockedChain {
         }
 
         private boolean prevotesOld(Seat s) {
-            if (s.step != PROPOSAL) {
+            if (s.step != PROPOSE) {
                 return false;
             }
             for (Letter l = post.first(PROPOSAL, s.height, s.round); l != null; l = l.next) {
@@ -822,7 +823,7 @@ public final class LockedChain {
         }
 
         private boolean locks(Seat s) {
-            Letter l = s.step == PROPOSAL || s.didLock ? null : supported(s, s.round, PREVOTE);
+            Letter l = s.step == PROPOSE || s.didLock ? null : supported(s, s.round, PREVOTE);
             if (l == null) {
                 return false;
             }
