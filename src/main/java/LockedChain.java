@@ -780,12 +780,12 @@ public final class LockedChain {
             return false;
         }
 
-        /** The seats, as bits, of whom some letter of a round came and counts. */
+        /** The seats, as bits, of whom a letter of a round came: of whatever kind, and a proposal of whomever. */
         private int writers(Seat s, int round) {
             int writers = 0;
             for (int kind = 0; kind < KINDS; kind++) {
                 for (Letter l = post.first(kind, s.height, round); l != null; l = l.next) {
-                    if (counts(s, l)) {
+                    if (l.cameTo(s.number)) {
                         writers |= 1 << l.sender;
                     }
                 }
@@ -876,10 +876,10 @@ public final class LockedChain {
             return Post.voters(post.first(kind, s.height, round), s.number, value) >= council.many();
         }
 
-        /** A proposal counts, in every rule, only if it is from the proposer of its round. */
-        private boolean counts(Seat s, Letter l) {
-            return l.cameTo(s.number)
-                && (l.kind != PROPOSAL || l.sender == council.proposer(l.height, l.round));
+        /** Where a rule asks for a proposal, only one from the proposer of its round counts. */
+        private boolean counts(Seat s, Letter proposal) {
+            return proposal.cameTo(s.number)
+                && proposal.sender == council.proposer(proposal.height, proposal.round);
         }
     }
 }

@@ -76,12 +76,15 @@ final class PlainChain {
         List<Letter> all = new ArrayList<>();
         for (int number : s.inbox) {
             Letter l = letters.get(number);
-            boolean counts = l.kind != 0 || l.seat == proposer(l.height, l.round);
-            if (l.height == s.height && counts && which.test(l)) {
+            if (l.height == s.height && which.test(l)) {
                 all.add(l);
             }
         }
         return all;
+    }
+
+    private List<Letter> proposals(int seat, Predicate<Letter> which) {
+        return seen(seat, l -> l.kind == 0 && l.seat == proposer(l.height, l.round) && which.test(l));
     }
 
     private int unlike(List<Letter> some) {
@@ -167,7 +170,7 @@ final class PlainChain {
     private boolean decide(int seat) {
         Seat s = seats.get(seat);
         Letter best = null;
-        for (Letter l : seen(seat, l -> l.kind == 0 && right(seat, l.value))) {
+        for (Letter l : proposals(seat, l -> right(seat, l.value))) {
             if (manyFor(seat, 2, l.round, l.value) && (best == null || l.round < best.round)) {
                 best = l;
             }
@@ -206,7 +209,7 @@ final class PlainChain {
 
     private boolean prevoteFresh(int seat) {
         Seat s = seats.get(seat);
-        List<Letter> fit = seen(seat, l -> l.kind == 0 && l.round == s.round && l.vr == -1);
+        List<Letter> fit = proposals(seat, l -> l.round == s.round && l.vr == -1);
         if (s.step != 0 || fit.isEmpty()) {
             return false;
         }
@@ -218,7 +221,7 @@ final class PlainChain {
 
     private boolean prevoteAgain(int seat) {
         Seat s = seats.get(seat);
-        List<Letter> fit = seen(seat, l -> l.kind == 0 && l.round == s.round
+        List<Letter> fit = proposals(seat, l -> l.round == s.round
             && l.vr >= 0 && l.vr < s.round && manyFor(seat, 1, l.vr, l.value));
         if (s.step != 0 || fit.isEmpty()) {
             return false;
@@ -234,7 +237,7 @@ final class PlainChain {
         if (s.step == 0 || s.doneInRound.contains(5)) {
             return false;
         }
-        List<Letter> fit = seen(seat, l -> l.kind == 0 && l.round == s.round
+        List<Letter> fit = proposals(seat, l -> l.round == s.round
             && right(seat, l.value) && manyFor(seat, 1, s.round, l.value));
         if (fit.isEmpty()) {
             return false;

@@ -20,7 +20,7 @@ public final class RulesTest {
         t.catchesUp();
         t.catchesUpToTheGreatest();
         t.catchesUpOfSeven();
-        t.catchesUpByCountingLettersAlone();
+        t.catchesUpByLettersOfEveryKind();
         t.prevotesFreshProposals();
         t.prevotesTheFirstLetter();
         t.prevotesFreshAheadOfOld();
@@ -261,14 +261,27 @@ public final class RulesTest {
         dueSeat("three are", 0, 1, 0);
     }
 
-    /** The document: 'A PROPOSAL counts that is from the PROPOSER of its ROUND', said of all the rules. */
-    private void catchesUpByCountingLettersAlone() {
+    /** Rule 2 speaks of letters: whose proposal counts matters only where a rule asks for a proposal. */
+    private void catchesUpByLettersOfEveryKind() {
         layAlone();
         tell(1, PROPOSAL, 0, 3, 5, NO_VR);
+        tell(1, PROPOSAL, 0, 3, 6, 2);
+        tell(1, PRECOMMIT, 0, 3, 5, NO_VR);
+        dueSeat("one seat is not some", 0, 0, 1);
         tell(2, PREVOTE, 0, 3, 5, NO_VR);
-        dueSeat("a proposal not of the proposer", 0, 0, 1);
+        dueSeat("a proposal not of the proposer, and a prevote", 0, 3, 0, NONE, NONE, NONE, NONE, 1);
+        int sent = x.count(2);
+        tell(3, PROPOSAL, 0, 3, 7, NO_VR);
+        Due.is("the proposer's alone is prevoted", x.count(2), sent + 2);
+        dueLast("prevote", PREVOTE, 0, 3, 7, NO_VR);
+        layAlone();
+        tell(1, PROPOSAL, 0, 3, 5, NO_VR);
+        tell(2, PROPOSAL, 0, 3, 5, NO_VR);
+        dueSeat("two proposals, neither of the proposer", 0, 3, 0, NONE, NONE, NONE, NONE, 1);
+        layAlone();
+        tell(1, PROPOSAL, 0, 3, 5, NO_VR);
         tell(3, PROPOSAL, 0, 3, 5, NO_VR);
-        dueSeat("a proposal of the proposer, at once prevoted", 0, 3, 1);
+        dueSeat("two proposals, one of the proposer, at once prevoted", 0, 3, 1, NONE, NONE, NONE, NONE, 1);
     }
 
     private void lockOnEmpty() {
