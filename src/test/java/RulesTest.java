@@ -1,10 +1,5 @@
 /** The rules that a seat follows, one by one; mostly seat 0 of four alone, against three false ones. */
-public final class RulesTest {
-    private static final int NONE = -4, NIL = -1, NO_VR = -1;
-    private static final int PROPOSAL = 0, PREVOTE = 1, PRECOMMIT = 2;
-
-    private LockedChain x;
-
+public final class RulesTest extends Scene {
     public static void main(String[] args) {
         RulesTest t = new RulesTest();
         t.decides();
@@ -39,58 +34,6 @@ public final class RulesTest {
         t.staleSeat();
         t.lostLetters();
         Due.finish("RulesTest");
-    }
-
-    private void lay(int n, int... honest) {
-        x = new LockedChain();
-        x.seats(n);
-        for (int seat = 0; seat < n; seat++) {
-            boolean isFalse = true;
-            for (int h : honest) {
-                isFalse = isFalse && h != seat;
-            }
-            if (isFalse) {
-                x.falseSeat(seat);
-            }
-        }
-    }
-
-    /** Seat 0 of four alone is honest; it has proposed and prevoted EMPTY. */
-    private void layAlone() {
-        lay(4, 0);
-        Due.is("begin", x.begin(), 2);
-    }
-
-    /** A false seat's letter comes to seat 0. */
-    private void tell(int from, int kind, int height, int round, int value, int vr) {
-        x.come(x.say(from, kind, height, round, value, vr), 0);
-    }
-
-    private void tellVotes(int kind, int height, int round, int value, int... from) {
-        for (int seat : from) {
-            tell(seat, kind, height, round, value, NO_VR);
-        }
-    }
-
-    private void jump(int height, int round) {
-        tellVotes(PREVOTE, height, round, 98, 2, 3);
-        Due.is("jump to round " + round, x.seat(0, 1), round);
-    }
-
-    private void dueSeat(String what, int... want) {
-        for (int i = 0; i < want.length; i++) {
-            Due.is(what + ", seat(0, " + i + ")", x.seat(0, i), want[i]);
-        }
-    }
-
-    /** Of the last letter: kind, height, round, value, VR. */
-    private void dueLast(String what, int... want) {
-        int last = x.count(2) - 1;
-        Due.is(what + ": by seat 0", x.letter(last, 0), 0);
-        Due.is(what + ": came to itself alone", x.letter(last, 6), 1);
-        for (int i = 0; i < want.length; i++) {
-            Due.is(what + ": letter " + (i + 1), x.letter(last, i + 1), want[i]);
-        }
     }
 
     private void decides() {
@@ -546,13 +489,11 @@ public final class RulesTest {
 
     private void lostLetters() {
         layAlone();
-        while (x.count(2) < 399) {
-            x.say(1, PREVOTE, 5, 9, 99, 0);
-        }
+        fillTo(1, 399);
         tell(1, PREVOTE, 0, 0, 0, 0);
         int last = x.count(2) - 1;
         Due.is("the last letter", last, 399);
-        Due.is("one more", x.say(1, PREVOTE, 0, 0, 0, 0), -3);
+        Due.is("one more", x.say(1, PREVOTE, 0, 0, 0, 0), FULL);
         Due.is("the seat goes on", x.seat(0, 2), 1);
     }
 }
